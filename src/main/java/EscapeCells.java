@@ -51,7 +51,7 @@ public final class EscapeCells {
         numbers = new Numbers(storey);
         people = new People(storey.cells);
         flight = new Flight(storey, numbers, people);
-        signposts = new Signposts(storey, numbers);
+        signposts = new Signposts(storey);
         ran = false;
     }
 
@@ -174,6 +174,7 @@ public final class EscapeCells {
     public int run() {
         // Without a change since the latest run another one would go the same way.
         if (!ran) {
+            numbers.findAll();
             flight.goAll();
             ran = true;
         }
@@ -237,11 +238,11 @@ public final class EscapeCells {
     // ---- signs
 
     public int turns() {
-        return signposts.countTurns();
+        return signposts.countTurns(numbers.rowTo(NONE));
     }
 
     public int signs() {
-        return signposts.countLeast();
+        return signposts.countLeast(numbers.rowTo(NONE));
     }
 
     private static int sideOf(int told) {
@@ -385,6 +386,17 @@ public final class EscapeCells {
             return rows[row];
         }
 
+        void findAll() {
+            for (int exit = NONE; exit < storey.exits; exit++) {
+                rowTo(exit);
+            }
+        }
+
+        /** The same as rowTo(), behind findAll() and without a change since. */
+        int[] foundRowTo(int exit) {
+            return rows[exit + 1];
+        }
+
         private void find(int goal, int[] row) {
             Arrays.fill(row, NONE);
             int count = 0;
@@ -501,13 +513,14 @@ public final class EscapeCells {
             last = 0;
         }
 
+        /** The caller has found all walking numbers. */
         void goAll() {
             begin();
             int second = 0;
             boolean changed = true;
             while (waiting > 0 && second < LAST_SECOND) {
                 second = Math.max(second + 1, changed ? 0 : nextChange(second));
-                boolean caught = catchAll(second);
+                boolean caught = endInSmoke(second);
                 boolean stepped = stepAll(second);
                 changed = caught || stepped;
             }
@@ -536,7 +549,7 @@ public final class EscapeCells {
          */
         private int goalOf(int person) {
             int habit = people.habit[person];
-            return numbers.rowTo(habit)[people.cell[person]] == NONE ? NONE : habit;
+            return numbers.foundRowTo(habit)[people.cell[person]] == NONE ? NONE : habit;
         }
 
         /**
@@ -560,7 +573,7 @@ public final class EscapeCells {
             return next;
         }
 
-        private boolean catchAll(int second) {
+        private boolean endInSmoke(int second) {
             boolean caught = false;
             for (int person = 0; person < people.count; person++) {
                 if (state[person] == WAITING && storey.isBarred(here[person], second)) {
@@ -602,11 +615,11 @@ public final class EscapeCells {
         }
 
         private int numberOf(int person) {
-            return numbers.rowTo(goal[person])[here[person]];
+            return numbers.foundRowTo(goal[person])[here[person]];
         }
 
         private boolean stepOne(int person, int second) {
-            int[] row = numbers.rowTo(goal[person]);
+            int[] row = numbers.foundRowTo(goal[person]);
             int from = here[person];
             for (int way = 0; way < WAYS_ON; way++) {
                 int to = storey.openBeside(from, way);
@@ -686,7 +699,6 @@ public final class EscapeCells {
     /** Turns, and the least signs that show them. */
     private static final class Signposts {
         private final Storey storey;
-        private final Numbers numbers;
         private final int[] turnCell;
         // For each cell the turns that a sign in it shows, one bit for each.
         private final int[] shown;
@@ -694,29 +706,28 @@ public final class EscapeCells {
         // For each set of turns the least signs that show it.
         private final int[] least;
 
-        Signposts(Storey storey, Numbers numbers) {
+        Signposts(Storey storey) {
             this.storey = storey;
-            this.numbers = numbers;
             turnCell = new int[MOST_TURNS];
             shown = new int[storey.cells];
             showings = new int[MOST_SHOWINGS];
             least = new int[1 << MOST_TURNS];
         }
 
-        int countTurns() {
+        int countTurns(int[] row) {
             int count = 0;
             for (int cell = 0; cell < storey.cells; cell++) {
-                if (isTurn(cell)) {
+                if (isTurn(cell, row)) {
                     count++;
                 }
             }
             return count;
         }
 
-        int countLeast() {
+        int countLeast(int[] row) {
             int turns = 0;
             for (int cell = 0; cell < storey.cells; cell++) {
-                if (isTurn(cell)) {
+                if (isTurn(cell, row)) {
                     if (turns >= MOST_TURNS) {
                         return NONE;
                     }
@@ -728,8 +739,7 @@ public final class EscapeCells {
             return leastOf(turns, listShowings());
         }
 
-        private boolean isTurn(int cell) {
-            int[] row = numbers.rowTo(NONE);
+        private boolean isTurn(int cell, int[] row) {
             // Below an exit's 0, and below the NONE of a cell without a number, no number is less.
             int lesser = 0;
             for (int way = 0; way < WAYS_ON; way++) {

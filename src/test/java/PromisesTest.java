@@ -118,6 +118,7 @@ public final class PromisesTest {
         x.person(4, 0, 1, 0);
         check.holds("free stays as it is, an exit, too", !x.wall(0, 0, false));
         check.same("still an exit", x.walk(4, 0, 0), 4);
+        check.illegalState("so that it is no door", () -> x.door(0, 0, 1));
         x.smoke(0, 0, 7);
         check.holds("wall on an exit", !x.wall(0, 0, true));
         check.same("ways without an exit", x.ways(), 0);
@@ -430,6 +431,12 @@ public final class PromisesTest {
         across.person(2, 0, 1, 0);
         across.run();
         check.same("x + 1 before x - 1", across.told(0, 2), 1);
+        EscapeCells equal = corridor(6);
+        equal.exit(0, 0, 1);
+        equal.exit(5, 0, 1);
+        equal.person(2, 0, 1, 0);
+        check.same("an equal number is not less", equal.run(), 2);
+        check.same("so that it goes the other way", equal.told(0, 2), 0);
         EscapeCells column = new EscapeCells(2, 5);
         for (int y = 0; y < 5; y++) {
             column.wall(1, y, true);
