@@ -4,6 +4,7 @@ import java.util.function.LongSupplier;
 /** Runs of calls, made from a fixed seed, answered by the class and by the model alike. */
 public final class ModelTest {
     private static final int RUNS = 700;
+    private static final int MAZES = 1500;
     private static final int MOST_CALLS = 512;
     private static final Check check = new Check("ModelTest");
 
@@ -33,6 +34,9 @@ public final class ModelTest {
         for (int seed = 1; seed <= RUNS; seed++) {
             new ModelTest(seed).go();
         }
+        for (int seed = 1; seed <= MAZES; seed++) {
+            new ModelTest(RUNS + seed).goMaze();
+        }
         check.finish();
     }
 
@@ -44,6 +48,23 @@ public final class ModelTest {
                 change();
             }
             ask(20);
+        }
+    }
+
+    /** So many walls that there are seldom too many turns for signs. */
+    private void goMaze() {
+        int area = Math.max(2, width) * Math.max(2, height);
+        for (int i = area * (20 + random.nextInt(50)) / 100; i > 0; i--) {
+            tellWall(true);
+        }
+        for (int i = random.nextInt(8); i >= 0; i--) {
+            tellExit();
+        }
+        for (int i = 0; i < 4; i++) {
+            compare("turns()", cells::turns, model::turns);
+            compare("signs()", cells::signs, model::signs);
+            tellWall(chance(60));
+            tellExit();
         }
     }
 

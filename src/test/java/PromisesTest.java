@@ -36,15 +36,6 @@ public final class PromisesTest {
         check.finish();
     }
 
-    /** A storey with one row of cells; the other row is walls. */
-    private static EscapeCells corridor(int length) {
-        EscapeCells x = new EscapeCells(length, 2);
-        for (int i = 0; i < length; i++) {
-            x.wall(i, 1, true);
-        }
-        return x;
-    }
-
     private static void size(int width, int height, int cellsAcross, int cellsDown) {
         String name = "new EscapeCells(" + width + ", " + height + ")";
         EscapeCells x = new EscapeCells(width, height);
@@ -86,7 +77,7 @@ public final class PromisesTest {
     }
 
     private static void wall() {
-        EscapeCells x = corridor(5);
+        EscapeCells x = Storeys.corridor(5);
         x.exit(0, 0, 1);
         check.same("walk before the wall", x.walk(4, 0, NONE), 4);
         check.holds("it was no wall", !x.wall(2, 0, true));
@@ -113,7 +104,7 @@ public final class PromisesTest {
     }
 
     private static void wallTakesExitOrDoor() {
-        EscapeCells x = corridor(5);
+        EscapeCells x = Storeys.corridor(5);
         x.exit(0, 0, 1);
         x.person(4, 0, 1, 0);
         check.holds("free stays as it is, an exit, too", !x.wall(0, 0, false));
@@ -143,7 +134,7 @@ public final class PromisesTest {
     }
 
     private static void exit() {
-        EscapeCells x = corridor(5);
+        EscapeCells x = Storeys.corridor(5);
         check.same("first exit", x.exit(4, 0, 1), 0);
         check.same("second exit", x.exit(0, 0, 5), 1);
         check.same("exit keeps its number", x.exit(4, 0, 3), 0);
@@ -186,7 +177,7 @@ public final class PromisesTest {
     }
 
     private static void door() {
-        EscapeCells x = corridor(5);
+        EscapeCells x = Storeys.corridor(5);
         x.exit(0, 0, 1);
         x.person(3, 0, 1, 0);
         x.person(4, 0, 1, 0);
@@ -285,7 +276,7 @@ public final class PromisesTest {
     }
 
     private static void habit() {
-        EscapeCells x = corridor(5);
+        EscapeCells x = Storeys.corridor(5);
         x.exit(0, 0, 1);
         x.exit(4, 0, 1);
         x.person(1, 0, 1, 0);
@@ -326,7 +317,7 @@ public final class PromisesTest {
     }
 
     private static void walk() {
-        EscapeCells x = corridor(5);
+        EscapeCells x = Storeys.corridor(5);
         x.exit(0, 0, 1);
         x.exit(2, 0, 1);
         check.same("nearest exit", x.walk(4, 0, NONE), 2);
@@ -357,7 +348,7 @@ public final class PromisesTest {
     }
 
     private static void runEnds() {
-        EscapeCells x = corridor(5);
+        EscapeCells x = Storeys.corridor(5);
         check.same("nobody", x.run(), 0);
         check.same("nobody left", x.left(3600), 0);
         x.person(4, 0, 1, 0);
@@ -379,7 +370,7 @@ public final class PromisesTest {
     }
 
     private static void runTiming() {
-        EscapeCells x = corridor(5);
+        EscapeCells x = Storeys.corridor(5);
         x.exit(0, 0, 1);
         x.person(4, 0, 2, 3);
         check.same("delay 3, pace 2, four steps", x.run(), 11);
@@ -387,11 +378,11 @@ public final class PromisesTest {
         check.same("first step", x.at(0, 5, 0), 3);
         check.same("waits for its pace", x.at(0, 6, 0), 3);
         check.same("second step", x.at(0, 7, 0), 2);
-        EscapeCells late = corridor(3);
+        EscapeCells late = Storeys.corridor(3);
         late.exit(0, 0, 1);
         late.person(2, 0, 5, 600);
         check.same("latest and slowest", late.run(), 610);
-        EscapeCells held = corridor(4);
+        EscapeCells held = Storeys.corridor(4);
         held.exit(0, 0, 1);
         held.person(1, 0, 1, 9);
         held.person(2, 0, 3, 0);
@@ -400,12 +391,12 @@ public final class PromisesTest {
     }
 
     private static void runOrder() {
-        EscapeCells x = corridor(4);
+        EscapeCells x = Storeys.corridor(4);
         x.exit(0, 0, 1);
         x.person(2, 0, 1, 0);
         x.person(1, 0, 1, 0);
         check.same("the nearer goes first, and the other follows at once", x.run(), 2);
-        EscapeCells tie = corridor(3);
+        EscapeCells tie = Storeys.corridor(3);
         tie.exit(1, 0, 1);
         tie.person(2, 0, 1, 0);
         tie.person(0, 0, 1, 0);
@@ -425,13 +416,13 @@ public final class PromisesTest {
         up.person(2, 2, 1, 0);
         up.run();
         check.same("x - 1 before y - 1", up.at(0, 2, 0) * 10 + up.at(0, 2, 1), 2);
-        EscapeCells across = corridor(5);
+        EscapeCells across = Storeys.corridor(5);
         across.exit(0, 0, 1);
         across.exit(4, 0, 1);
         across.person(2, 0, 1, 0);
         across.run();
         check.same("x + 1 before x - 1", across.told(0, 2), 1);
-        EscapeCells equal = corridor(6);
+        EscapeCells equal = Storeys.corridor(6);
         equal.exit(0, 0, 1);
         equal.exit(5, 0, 1);
         equal.person(2, 0, 1, 0);
@@ -470,7 +461,7 @@ public final class PromisesTest {
         check.same("no exit", x.told(0, 2), NONE);
         check.same("in no cell", x.at(0, 2, 0), NONE);
         check.same("in a cell before", x.at(0, 1, 1), 1);
-        EscapeCells near = corridor(3);
+        EscapeCells near = Storeys.corridor(3);
         near.exit(0, 0, 1);
         near.person(1, 0, 1, 0);
         near.smoke(1, 0, 1);
@@ -501,7 +492,7 @@ public final class PromisesTest {
         check.same("two in the first second", x.left(1), 1);
         x.exit(1, 0, 3);
         check.same("rate 3", x.run(), 1);
-        EscapeCells passed = corridor(5);
+        EscapeCells passed = Storeys.corridor(5);
         passed.exit(0, 0, 1);
         passed.exit(2, 0, 1);
         passed.person(1, 0, 1, 0);
@@ -515,7 +506,7 @@ public final class PromisesTest {
     }
 
     private static void runHabits() {
-        EscapeCells x = corridor(5);
+        EscapeCells x = Storeys.corridor(5);
         x.exit(0, 0, 1);
         x.exit(2, 0, 1);
         x.person(4, 0, 1, 0);
@@ -527,7 +518,7 @@ public final class PromisesTest {
         x.wall(1, 0, true);
         check.same("any, if its own is out of reach", x.run(), 2);
         check.same("by the other", x.told(0, 2), 1);
-        EscapeCells block = corridor(5);
+        EscapeCells block = Storeys.corridor(5);
         block.exit(0, 0, 1);
         block.exit(2, 0, 5);
         block.person(3, 0, 5, 0);
@@ -535,7 +526,7 @@ public final class PromisesTest {
         block.habit(0, 0);
         check.same("one who stands in an exit", block.run(), 15);
         check.same("bars it for the other until it has gone on", block.told(1, 1), 11);
-        EscapeCells order = corridor(5);
+        EscapeCells order = Storeys.corridor(5);
         order.exit(0, 0, 1);
         order.exit(2, 0, 1);
         order.person(3, 0, 1, 0);
@@ -546,7 +537,7 @@ public final class PromisesTest {
     }
 
     private static void told() {
-        EscapeCells x = corridor(5);
+        EscapeCells x = Storeys.corridor(5);
         x.exit(0, 0, 1);
         x.person(2, 0, 1, 0);
         x.person(3, 0, 1, 600);
@@ -604,7 +595,7 @@ public final class PromisesTest {
     }
 
     private static void through() {
-        EscapeCells x = corridor(5);
+        EscapeCells x = Storeys.corridor(5);
         x.exit(0, 0, 1);
         x.person(2, 0, 1, 0);
         x.person(3, 0, 1, 0);
@@ -629,7 +620,7 @@ public final class PromisesTest {
     }
 
     private static void left() {
-        EscapeCells x = corridor(6);
+        EscapeCells x = Storeys.corridor(6);
         x.exit(0, 0, 1);
         x.person(2, 0, 1, 0);
         x.person(3, 0, 1, 0);
@@ -662,7 +653,7 @@ public final class PromisesTest {
         check.same("with a wall", x.turns(), 2);
         x.smoke(0, 1, 0);
         check.same("with smoke", x.turns(), 2);
-        EscapeCells between = corridor(5);
+        EscapeCells between = Storeys.corridor(5);
         between.exit(0, 0, 1);
         between.exit(4, 0, 1);
         check.same("between two exits", between.turns(), 1);
@@ -698,7 +689,7 @@ public final class PromisesTest {
     }
 
     private static void noRun() {
-        EscapeCells x = corridor(5);
+        EscapeCells x = Storeys.corridor(5);
         x.exit(0, 0, 1);
         x.person(2, 0, 1, 0);
         Check.Call[] changes = {
@@ -716,7 +707,7 @@ public final class PromisesTest {
     }
 
     private static void throwingChangesNothing() {
-        EscapeCells x = corridor(5);
+        EscapeCells x = Storeys.corridor(5);
         x.exit(0, 0, 1);
         x.person(2, 0, 1, 0);
         x.run();
