@@ -384,6 +384,14 @@ public final class RunBoundaryTest {
                     check.same("caught in second " + second, x.run(), second);
                     toldAll(x, 1, CAUGHT, second, NONE, 0);
                 }
+                EscapeCells two = Storeys.corridor(2);
+                two.person(0, 0, 1, 0);
+                two.person(1, 0, 1, 0);
+                two.smoke(0, 0, 3599);
+                check.same("one is caught in second 3599, one waits on", two.run(), 3600);
+                two.smoke(1, 0, 3600);
+                check.same("or is caught in the last second", two.run(), 3600);
+                toldAll(two, 1, CAUGHT, 3600, NONE, 0);
             });
         check.sentence("A run: its last second, 0 if there are no persons.", () -> {
             EscapeCells x = Storeys.corridor(4, 1, 0);

@@ -226,6 +226,9 @@ public final class StoreyBoundaryTest {
             check.holds("an exit is no wall", !x.wall(0, 0, false));
             check.holds("a door is no wall", !x.wall(1, 0, false));
             check.same("the exit is one still", x.walk(0, 0, 0), 0);
+            check.illegalState("and no free cell for a door", () -> x.door(0, 0, 1));
+            check.illegalState("or for a person", () -> x.person(0, 0, 1, 0));
+            check.same("it keeps its number", x.exit(0, 0, 1), 0);
         });
         check.sentence("Illegal argument; illegal state: a person is in it.", () -> {
             EscapeCells x = Storeys.corridor(3, 1, 0);
