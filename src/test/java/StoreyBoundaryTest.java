@@ -263,6 +263,13 @@ public final class StoreyBoundaryTest {
         check.same("the new one leads there", x.walk(1, 0, 2), 1);
         check.same("the last number there is", x.habit(0, 2), 0);
         check.illegalArgument("the next one", () -> x.habit(0, 3));
+        EscapeCells twice = Storeys.corridor(4, 1, 0, 3);
+        for (int i = 0; i < 2; i++) {
+            twice.wall(3, 0, true);
+            check.same("exit 0 leads while the other is a wall", twice.walk(1, 0, 0), 1);
+            twice.wall(3, 0, false);
+        }
+        check.same("and when it is free again", twice.walk(3, 0, NONE), 3);
     }
 
     private static void exit() {
