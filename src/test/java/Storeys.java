@@ -23,6 +23,21 @@ final class Storeys {
         return x;
     }
 
+    /** A storey as it is drawn, row by row: '#' a wall, 'E' an exit of rate 1, all else free. */
+    static EscapeCells drawn(String... rows) {
+        EscapeCells x = new EscapeCells(rows[0].length(), rows.length);
+        for (int y = 0; y < rows.length; y++) {
+            for (int i = 0; i < rows[y].length(); i++) {
+                if (rows[y].charAt(i) == '#') {
+                    x.wall(i, y, true);
+                } else if (rows[y].charAt(i) == 'E') {
+                    x.exit(i, y, 1);
+                }
+            }
+        }
+        return x;
+    }
+
     /** Where a person is behind a second, as x * 100 + y; NONE if it is in no cell. */
     static int place(EscapeCells storey, int person, int second) {
         int x = storey.at(person, second, 0);

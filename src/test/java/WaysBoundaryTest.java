@@ -229,6 +229,11 @@ public final class WaysBoundaryTest {
         for (int corner = 0; corner < 4; corner++) {
             check.same("a sign in corner " + corner, bend(corner % 2 * 3, corner / 2 * 3).signs(), 1);
         }
+        // The turns are (3, 0), (4, 0), (1, 2), (2, 2), (4, 3). Just (3, 2) is near enough to the two that are
+        // farthest apart, and it shows all but (4, 0); every cell near enough to that one shows (3, 0), too.
+        EscapeCells shared = Storeys.drawn(".#...", "E....", "#...#", "E.#..", "..E..");
+        check.same("turns of which some are shown twice", shared.turns(), 5);
+        check.same("least signs that both show a turn", shared.signs(), 2);
         EscapeCells changed = Storeys.corridor(8, 1, 0, 2, 4, 6);
         check.same("turns 1, 3 and 5", changed.signs(), 1);
         for (int i = 4; i <= 6; i += 2) {
